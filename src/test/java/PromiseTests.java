@@ -180,6 +180,9 @@ public final class PromiseTests {
         Due.equal("row", x.find(3), 1);
         Due.equal("row;", x.find(4), -1);
         x.load(0);
+        Due.buffer(x, "kbhsymw");
+        Due.equal("a name kept in 32 bits would take this for a", x.find(7), -1);
+        x.load(0);
         Due.buffer(x, " a");
         Due.equal("space a", x.find(2), -1);
         x.load(0);
@@ -451,6 +454,9 @@ public final class PromiseTests {
         x.tick(2);
         Due.equal("one went away inside", x.state(12), 1);
         Due.equal("gap", x.gap(), 0);
+        x.tick(1);
+        x.undo();
+        Due.equal("gap after undo", x.gap(), 0);
         x.join(0, 1, 1);
         x.key(0);
         x.key(1);

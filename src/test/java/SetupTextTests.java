@@ -98,6 +98,10 @@ public final class SetupTextTests {
         wrong("row 3 2;keys 1;", code, 8);
         wrong("row 3 2;abcdefgh 1;", code, 8);
         wrong("row 3 2;1;", code, 8);
+        wrong("row 3 2;card gate 1;;", code, 20);
+        wrong("row 3 2;card gate 1;1 in;", code, 20);
+        wrong("row 3 2;card kbhsymw 1;", GateRow.OUT_OF_RANGE, 13);
+        wrong("kbhsymw 3 2;", code, 0);
     }
 
     private static void ranges() {
