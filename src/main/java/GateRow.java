@@ -149,7 +149,7 @@ public final class GateRow {
         requireSide(side);
         int best = NONE;
         int shortest = LINE_PLACES + 1;
-        for (int g = 0; now.hasGate(g); g++) {
+        for (int g = 0; g < now.gateCount && g < now.gates.length; g++) {
             Gate candidate = now.gates[g];
             if (candidate.serves(side) && candidate.lineOn(side).size < shortest) {
                 best = g;
@@ -206,7 +206,7 @@ public final class GateRow {
     }
 
     public int ranked(int rank) throws NoSuchElementException {
-        for (int g = 0; now.hasGate(g); g++) {
+        for (int g = 0; g < now.gateCount && g < now.gates.length; g++) {
             if (now.gatesAheadOf(g) == rank) {
                 return g;
             }
@@ -326,14 +326,14 @@ public final class GateRow {
         for (int what = 0; what < STATE_NUMBERS; what++) {
             sum = 31 * sum + now.numberOfState(what);
         }
-        for (int g = 0; now.hasGate(g); g++) {
+        for (int g = 0; g < now.gateCount && g < now.gates.length; g++) {
             for (int what = 0; what < GATE_NUMBERS; what++) {
                 sum = 31 * sum + now.gates[g].numberOfGate(what);
             }
             sum = withLine(sum, now.gates[g].outerLine);
             sum = withLine(sum, now.gates[g].innerLine);
         }
-        for (int c = 0; now.hasCard(c); c++) {
+        for (int c = 0; c < now.cardCount && c < now.cards.length; c++) {
             for (int what = 0; what < CARD_NUMBERS; what++) {
                 sum = 31 * sum + now.numberOfCard(c, what);
             }
@@ -343,7 +343,7 @@ public final class GateRow {
 
     private static long withLine(long before, Line line) {
         long sum = before;
-        for (int place = 0; place < line.size; place++) {
+        for (int place = 0; place < line.size && place < LINE_PLACES; place++) {
             sum = 31 * sum + line.cardAt(place);
         }
         return sum;
@@ -798,7 +798,7 @@ public final class GateRow {
 
         int cardsInTwoLines() {
             int doubled = 0;
-            for (int c = 0; c < cardCount; c++) {
+            for (int c = 0; c < cardCount && c < cards.length; c++) {
                 int lines = 0;
                 for (Gate gate : gates) {
                     lines += gate.outerLine.placeOf(c) != NONE ? 1 : 0;

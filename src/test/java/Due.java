@@ -1,9 +1,25 @@
 /** What the tests of the project share: comparing answers, and handing over texts. */
 final class Due {
+    private static int tests = 0;
     private static int checks = 0;
+    private static int checksBefore = 0;
     private static int wrong = 0;
+    private static String test = "";
 
     private Due() {
+    }
+
+    static void begin(String name) {
+        tests++;
+        checksBefore = checks;
+        test = name + ": ";
+    }
+
+    static void endOne() {
+        if (checks == checksBefore) {
+            report("checks nothing");
+        }
+        test = "";
     }
 
     static void equal(String what, long got, long want) {
@@ -37,13 +53,15 @@ final class Due {
     /** Like thrown, and the row must be as it was. */
     static void refused(GateRow row, String what, Class<? extends RuntimeException> kind, Runnable call) {
         long before = row.checksum();
+        int offset = row.errorOffset();
         thrown(what, kind, call);
         equal("checksum after " + what, row.checksum(), before);
+        equal("error offset after " + what, row.errorOffset(), offset);
     }
 
     static void report(String text) {
         wrong++;
-        System.out.println(text);
+        System.out.println(test + text);
     }
 
     /** A text's characters are its bytes; what fills up the last 20 bytes is not read. */
@@ -70,6 +88,19 @@ final class Due {
         return row;
     }
 
+    static void right(String text, int gates) {
+        GateRow x = new GateRow();
+        equal("load of '" + text + "'", load(x, text), gates);
+        equal("offset of '" + text + "'", x.errorOffset(), -1);
+    }
+
+    static void wrong(String text, int code, int offset) {
+        GateRow x = new GateRow();
+        equal("load of '" + text + "'", load(x, text), code);
+        equal("offset of '" + text + "'", x.errorOffset(), offset);
+        equal("nothing changed by '" + text + "'", x.checksum(), new GateRow().checksum());
+    }
+
     private static int word(String text, int from) {
         int word = 0;
         for (int i = from; i < from + 4; i++) {
@@ -79,7 +110,7 @@ final class Due {
     }
 
     static void end(String name) {
-        System.out.println(name + ": " + checks + " checks, " + wrong + " wrong");
+        System.out.println(name + ": " + tests + " tests, " + checks + " checks, " + wrong + " wrong");
         if (wrong != 0) {
             System.exit(1);
         }

@@ -8,77 +8,20 @@ public final class PromiseTests {
     private static final Class<NoSuchElementException> ELEMENT = NoSuchElementException.class;
 
     public static void main(String[] args) {
-        newObject();
-        append();
-        load();
-        errorOffset();
-        state();
-        find();
-        gate();
-        card();
-        inLine();
-        why();
-        whyNotJoin();
-        bestGate();
-        nextSide();
-        throughIn();
-        insideIn();
-        followersIn();
-        outInPanic();
-        ranked();
-        gap();
-        followerShare();
-        join();
-        leave();
-        list();
-        charge();
-        mode();
-        key();
-        keyInPanic();
-        tick();
-        tickSendsAway();
-        tickChoosesSide();
-        undo();
-        undoOfEveryChange();
-        checksum();
+        Promises.run(PromiseTests.class, 1, 29);
         Due.end("PromiseTests");
     }
 
-    private static void states(String of, GateRow x, int... wants) {
-        for (int what = 0; what < wants.length; what++) {
-            Due.equal(of + ": state(" + what + ")", x.state(what), wants[what]);
-        }
-    }
-
-    private static void gates(String of, GateRow x, int gate, int... wants) {
-        for (int what = 0; what < wants.length; what++) {
-            Due.equal(of + ": gate(" + gate + ", " + what + ")", x.gate(gate, what), wants[what]);
-        }
-    }
-
-    private static void cards(String of, GateRow x, int card, int... wants) {
-        for (int what = 0; what < wants.length; what++) {
-            Due.equal(of + ": card(" + card + ", " + what + ")", x.card(card, what), wants[what]);
-        }
-    }
-
-    private static void lines(String of, GateRow x, int gate, int side, int... wants) {
-        Due.equal(of + ": people", x.gate(gate, 4 + side), wants.length);
-        for (int place = 0; place < wants.length; place++) {
-            Due.equal(of + ": place " + place, x.inLine(gate, side, place), wants[place]);
-        }
-    }
-
-    private static void newObject() {
+    private static void promise1_newObject() {
         GateRow x = new GateRow();
-        states("new", x, 0, 0, 3, 2, 0, 0, 0, 0, 0, 0, 0, 0, 0, 0, 0, 0);
+        Rows.states("new", x, 0, 0, 3, 2, 0, 0, 0, 0, 0, 0, 0, 0, 0, 0, 0, 0);
         Due.equal("new buffer is empty", x.find(0), -1);
         Due.thrown("new: find(1)", ARGUMENT, () -> x.find(1));
         Due.equal("new: nothing to undo", x.undo(), -1);
         Due.equal("as by the text", x.checksum(), Due.row("row 3 2;").checksum());
     }
 
-    private static void append() {
+    private static void promise2_append() {
         GateRow x = new GateRow();
         for (int n = 1; n <= 25; n++) {
             Due.equal("append " + n, x.append(0x20202020, 0x20202020, 0x20202020, 0x20202020, 0x20202020), 20 * n);
@@ -95,7 +38,7 @@ public final class PromiseTests {
         Due.equal("flow", x.state(3), 4);
     }
 
-    private static void load() {
+    private static void promise3_load() {
         GateRow x = new GateRow();
         Due.thrown("load(1) of none", ARGUMENT, () -> x.load(1));
         Due.equal("empty text", x.load(0), GateRow.SYNTAX_ERROR);
@@ -106,10 +49,10 @@ public final class PromiseTests {
         Due.refused(x, "load(min)", ARGUMENT, () -> x.load(Integer.MIN_VALUE));
         Due.equal("load", x.load(text.length()), 2);
         Due.refused(x, "the buffer is empty then", ARGUMENT, () -> x.load(1));
-        states("loaded", x, 2, 2, 1, 4, 2, 1, 1, 0, 1, 1, 0, 0, 0, 0, 0, 0);
-        cards("loaded", x, 0, 4, 1, 0, -1, -1, -1, 1);
-        cards("loaded", x, 1, 0, 0, 1, -1, -1, -1, 0);
-        gates("loaded", x, 1, 2, 0, -1, 0, 1, 0, 0, 1, 0);
+        Rows.states("loaded", x, 2, 2, 1, 4, 2, 1, 1, 0, 1, 1, 0, 0, 0, 0, 0, 0);
+        Rows.cards("loaded", x, 0, 4, 1, 0, -1, -1, -1, 1);
+        Rows.cards("loaded", x, 1, 0, 0, 1, -1, -1, -1, 0);
+        Rows.gates("loaded", x, 1, 2, 0, -1, 0, 1, 0, 0, 1, 0);
         long before = x.checksum();
         Due.equal("wrong text", Due.load(x, "row 2 2;gate in;gato;"), GateRow.SYNTAX_ERROR);
         Due.equal("wrong text changes nothing", x.checksum(), before);
@@ -120,7 +63,7 @@ public final class PromiseTests {
         Due.equal("first bytes alone", x.load(8), 0);
     }
 
-    private static void errorOffset() {
+    private static void promise4_errorOffset() {
         GateRow x = new GateRow();
         Due.equal("no call yet", x.errorOffset(), -1);
         Due.load(x, "row 3 5;");
@@ -135,31 +78,31 @@ public final class PromiseTests {
         Due.equal("not affected by undo", x.errorOffset(), 0);
     }
 
-    private static void state() {
+    private static void promise5_state() {
         GateRow x = Due.row("row 2 1;gate both;gate out;card a 9;card b 9;wait 0 in a;wait 0 in;wait 0 in b;");
-        states("waiting", x, 2, 2, 2, 1, 0, 0, 3, 0, 0, 0, 0, 0, 0, 0, 0, 0);
+        Rows.states("waiting", x, 2, 2, 2, 1, 0, 0, 3, 0, 0, 0, 0, 0, 0, 0, 0, 0);
         x.tick(1);
-        states("open", x, 2, 2, 2, 1, 1, 0, 3, 0, 0, 0, 0, 0, 0, 0, 0, 1);
+        Rows.states("open", x, 2, 2, 2, 1, 1, 0, 3, 0, 0, 0, 0, 0, 0, 0, 0, 1);
         x.tick(2);
-        states("two in", x, 2, 2, 2, 1, 3, 2, 1, 0, 0, 2, 0, 1, 0, 0, 0, 0);
+        Rows.states("two in", x, 2, 2, 2, 1, 3, 2, 1, 0, 0, 2, 0, 1, 0, 0, 0, 0);
         x.list(1, true);
         x.tick(1);
-        states("b went away", x, 2, 2, 2, 1, 4, 2, 0, 0, 0, 2, 0, 1, 1, 0, 0, 0);
+        Rows.states("b went away", x, 2, 2, 2, 1, 4, 2, 0, 0, 0, 2, 0, 1, 1, 0, 0, 0);
         x.join(1, 0, -1);
         x.join(1, 1, 0);
         x.join(0, 1, -1);
         x.key(0);
         x.key(2);
         x.tick(1);
-        states("panic", x, 2, 2, 2, 1, 5, 0, 0, 1, 2, 2, 2, 1, 1, 1, 2, 0);
+        Rows.states("panic", x, 2, 2, 2, 1, 5, 0, 0, 1, 2, 2, 2, 1, 1, 1, 2, 0);
         Due.refused(x, "state(-1)", ARGUMENT, () -> x.state(-1));
         Due.refused(x, "state(16)", ARGUMENT, () -> x.state(16));
         Due.refused(x, "state(max)", ARGUMENT, () -> x.state(Integer.MAX_VALUE));
         Due.load(x, "row 2 1;");
-        states("counted since the load", x, 0, 0, 2, 1, 0, 0, 0, 0, 0, 0, 0, 0, 0, 0, 0, 0);
+        Rows.states("counted since the load", x, 0, 0, 2, 1, 0, 0, 0, 0, 0, 0, 0, 0, 0, 0, 0, 0);
     }
 
-    private static void find() {
+    private static void promise6_find() {
         GateRow x = Due.row("row 1 1;card a 1;card row 2;card zzzzzz 3;card ab 4;card aa 5;");
         Due.buffer(x, "zzzzzzz row");
         Due.equal("zzzzzz", x.find(6), 2);
@@ -194,22 +137,22 @@ public final class PromiseTests {
         Due.equal("a byte 0", x.find(1), -1);
     }
 
-    private static void gate() {
+    private static void promise7_gate() {
         GateRow x = Due.row("row 3 2;gate in;gate out;gate both;card a 2;wait 2 in;wait 2 in a;");
-        gates("in", x, 0, 0, 0, -1, 0, 0, 0, 0, 0, -1);
-        gates("out", x, 1, 1, 0, -1, 0, 0, 0, 0, 0, -1);
-        gates("both", x, 2, 2, 0, -1, 0, 2, 0, 0, 0, -1);
+        Rows.gates("in", x, 0, 0, 0, -1, 0, 0, 0, 0, 0, -1);
+        Rows.gates("out", x, 1, 1, 0, -1, 0, 0, 0, 0, 0, -1);
+        Rows.gates("both", x, 2, 2, 0, -1, 0, 2, 0, 0, 0, -1);
         x.tick(1);
-        gates("due", x, 2, 2, 3, 0, 1, 2, 0, 0, 1, 0);
+        Rows.gates("due", x, 2, 2, 3, 0, 1, 2, 0, 0, 1, 0);
         x.tick(1);
-        gates("went", x, 2, 2, 2, 0, 0, 1, 0, 0, 1, 0);
+        Rows.gates("went", x, 2, 2, 2, 0, 0, 1, 0, 0, 1, 0);
         x.tick(1);
-        gates("followed", x, 2, 2, 1, 0, 0, 0, 0, 1, 1, 0);
+        Rows.gates("followed", x, 2, 2, 1, 0, 0, 0, 0, 1, 1, 0);
         x.join(2, 1, 0);
         x.tick(1);
-        gates("closed", x, 2, 2, 0, -1, 0, 0, 1, 1, 1, 0);
+        Rows.gates("closed", x, 2, 2, 0, -1, 0, 0, 1, 1, 1, 0);
         x.tick(1);
-        gates("out", x, 2, 2, 3, 1, 1, 0, 1, 1, 2, 1);
+        Rows.gates("out", x, 2, 2, 3, 1, 1, 0, 1, 1, 2, 1);
         Due.refused(x, "gate(-1, 0)", INDEX, () -> x.gate(-1, 0));
         Due.refused(x, "gate(3, 0)", INDEX, () -> x.gate(3, 0));
         Due.refused(x, "gate(6, -1)", INDEX, () -> x.gate(6, -1));
@@ -217,17 +160,17 @@ public final class PromiseTests {
         Due.refused(x, "gate(0, 9)", ARGUMENT, () -> x.gate(0, 9));
     }
 
-    private static void card() {
+    private static void promise8_card() {
         GateRow x = Due.row("row 1 2;gate in;gate both;card a 2;card b 99;card c 0;list c;wait 1 in;wait 1 in b;");
-        cards("a", x, 0, 2, 0, 0, -1, -1, -1, 0);
-        cards("b", x, 1, 99, 0, 0, 1, 0, 1, 0);
-        cards("c", x, 2, 0, 0, 1, -1, -1, -1, 0);
+        Rows.cards("a", x, 0, 2, 0, 0, -1, -1, -1, 0);
+        Rows.cards("b", x, 1, 99, 0, 0, 1, 0, 1, 0);
+        Rows.cards("c", x, 2, 0, 0, 1, -1, -1, -1, 0);
         x.tick(2);
-        cards("b in", x, 1, 98, 1, 0, -1, -1, -1, 1);
+        Rows.cards("b in", x, 1, 98, 1, 0, -1, -1, -1, 1);
         x.join(1, 1, 1);
-        cards("b in line", x, 1, 98, 1, 0, 1, 1, 0, 1);
+        Rows.cards("b in line", x, 1, 98, 1, 0, 1, 1, 0, 1);
         x.tick(2);
-        cards("b out", x, 1, 98, 0, 0, -1, -1, -1, 2);
+        Rows.cards("b out", x, 1, 98, 0, 0, -1, -1, -1, 2);
         Due.refused(x, "card(-1, 0)", INDEX, () -> x.card(-1, 0));
         Due.refused(x, "card(3, 0)", INDEX, () -> x.card(3, 0));
         Due.refused(x, "card(12, 7)", INDEX, () -> x.card(12, 7));
@@ -235,9 +178,9 @@ public final class PromiseTests {
         Due.refused(x, "card(0, 7)", ARGUMENT, () -> x.card(0, 7));
     }
 
-    private static void inLine() {
+    private static void promise9_inLine() {
         GateRow x = Due.row("row 1 2;gate both;card a 2;card b 2;wait 0 in b;wait 0 in;wait 0 in a;");
-        lines("line", x, 0, 0, 1, -1, 0);
+        Rows.lines("line", x, 0, 0, 1, -1, 0);
         Due.refused(x, "inLine(1, 2, 9)", INDEX, () -> x.inLine(1, 2, 9));
         Due.refused(x, "inLine(-1, 0, 0)", INDEX, () -> x.inLine(-1, 0, 0));
         Due.refused(x, "inLine(0, 2, 9)", ARGUMENT, () -> x.inLine(0, 2, 9));
@@ -248,7 +191,7 @@ public final class PromiseTests {
         Due.refused(x, "inLine(0, 0, max)", ELEMENT, () -> x.inLine(0, 0, Integer.MAX_VALUE));
     }
 
-    private static void why() {
+    private static void promise10_why() {
         GateRow x = Due.row("row 1 2;gate in;card a 1;card b 0;card c 0;list c;wait 0 in a;");
         Due.equal("a in", x.why(0, 0), 0);
         Due.equal("a out", x.why(0, 1), 2);
@@ -267,7 +210,7 @@ public final class PromiseTests {
         Due.refused(x, "why(0, -1)", ARGUMENT, () -> x.why(0, -1));
     }
 
-    private static void whyNotJoin() {
+    private static void promise11_whyNotJoin() {
         GateRow x = Due.row("row 9 2;gate in;gate both;card a 9;card b 1;wait 1 in a;tick 2;wait 0 in b;");
         Due.equal("not served", x.whyNotJoin(0, 1, 1), 1);
         Due.equal("in a line", x.whyNotJoin(1, 0, 1), 3);
@@ -289,7 +232,7 @@ public final class PromiseTests {
         Due.refused(x, "no side", ARGUMENT, () -> x.whyNotJoin(0, -1, 0));
     }
 
-    private static void bestGate() {
+    private static void promise12_bestGate() {
         GateRow x = Due.row("row 1 1;gate in;gate in;gate both;wait 0 in;wait 2 in;");
         Due.equal("shortest", x.bestGate(0), 1);
         Due.equal("the only one", x.bestGate(1), 2);
@@ -307,7 +250,7 @@ public final class PromiseTests {
         Due.equal("full", full.bestGate(0), 0);
     }
 
-    private static void nextSide() {
+    private static void promise13_nextSide() {
         GateRow x = Due.row("row 1 1;gate in;gate out;gate both;card a 9;card b 9;");
         Due.equal("in", x.nextSide(0), 0);
         Due.equal("out", x.nextSide(1), 1);
@@ -332,7 +275,7 @@ public final class PromiseTests {
         Due.refused(x, "nextSide(-1)", INDEX, () -> x.nextSide(-1));
     }
 
-    private static void throughIn() {
+    private static void promise14_throughIn() {
         GateRow x = Due.row("row 9 2;gate both;card a 9;card b 9;card c 0;card d 1;wait 0 in;wait 0 in a;wait 0 in c;wait 0 in b;");
         long before = x.checksum();
         Due.equal("a", x.throughIn(0), 2);
@@ -356,11 +299,10 @@ public final class PromiseTests {
         Due.equal("not in by a panic", x.throughIn(3), -1);
         Due.refused(x, "throughIn(4)", INDEX, () -> x.throughIn(4));
         Due.refused(x, "throughIn(-1)", INDEX, () -> x.throughIn(-1));
-        throughInOfALongLine();
     }
 
     /** With the 12 cards that there are, no line lasts for 200 ticks; ten turns are the most of one. */
-    private static void throughInOfALongLine() {
+    private static void promise14_throughInOfALongLine() {
         GateRow x = Due.row("row 9 1;gate in;card a 9;card b 9;card c 9;card d 9;card e 9;card f 9;card g 9;"
                 + "card h 9;card i 9;card j 9;wait 0 in a;wait 0 in b;wait 0 in c;wait 0 in d;wait 0 in e;"
                 + "wait 0 in f;wait 0 in g;wait 0 in h;wait 0 in i;wait 0 in j;");
@@ -375,7 +317,7 @@ public final class PromiseTests {
         Due.equal("stuck behind a longer line without a card", y.throughIn(0), -1);
     }
 
-    private static void insideIn() {
+    private static void promise15_insideIn() {
         GateRow x = Due.row("row 2 2;gate both;card a 9;card b 9;wait 0 in a;wait 0 in;wait 0 in b;");
         long before = x.checksum();
         int[] wants = {0, 1, 2, 2, 3, 3, 3};
@@ -394,7 +336,7 @@ public final class PromiseTests {
         Due.equal("one goes away", x.insideIn(1), 2);
     }
 
-    private static void followersIn() {
+    private static void promise16_followersIn() {
         GateRow x = Due.row("row 3 2;gate both;gate in;card a 9;card b 9;wait 0 in a;wait 0 in;wait 0 in;wait 0 in;wait 1 in b;wait 1 in;");
         int[] wants = {0, 0, 2, 3, 3, 3};
         for (int t = 1; t <= wants.length; t++) {
@@ -410,7 +352,7 @@ public final class PromiseTests {
         Due.refused(x, "followersIn(min)", ARGUMENT, () -> x.followersIn(Integer.MIN_VALUE));
     }
 
-    private static void outInPanic() {
+    private static void promise17_outInPanic() {
         for (int flow = 1; flow <= 4; flow++) {
             GateRow x = Due.row("row 9 " + flow + ";gate both;gate out;card a 9;"
                     + "wait 0 in a;wait 0 in;wait 0 in;wait 0 in;wait 0 in;wait 0 in;wait 0 in;wait 0 in;tick 9;");
@@ -432,7 +374,7 @@ public final class PromiseTests {
         }
     }
 
-    private static void ranked() {
+    private static void promise18_ranked() {
         GateRow x = Due.row("row 1 1;gate in;gate both;gate out;gate in;wait 1 in;wait 3 in;wait 3 in;");
         int[] wants = {3, 1, 0, 2};
         for (int rank = 0; rank < wants.length; rank++) {
@@ -446,7 +388,7 @@ public final class PromiseTests {
         Due.refused(z, "no gates", ELEMENT, () -> z.ranked(0));
     }
 
-    private static void gap() {
+    private static void promise19_gap() {
         GateRow x = Due.row("row 2 2;gate both;card a 9;card b 9;wait 0 in a;wait 0 in;wait 0 in b;tick 5;");
         Due.equal("in", x.gap(), 0);
         x.list(0, true);
@@ -464,7 +406,7 @@ public final class PromiseTests {
         Due.equal("panic", x.gap(), 0);
     }
 
-    private static void followerShare() {
+    private static void promise20_followerShare() {
         GateRow x = Due.row("row 9 2;gate both;card a 9;wait 0 in;wait 0 in a;wait 0 in;");
         Due.equalFloat("nobody", x.followerShare(), 0f);
         x.tick(2);
@@ -481,7 +423,7 @@ public final class PromiseTests {
         Due.equalFloat("since the load", x.followerShare(), 0f);
     }
 
-    private static void join() {
+    private static void promise21_join() {
         GateRow x = Due.row("row 9 2;gate in;gate both;card a 9;card b 1;wait 1 in a;tick 2;");
         Due.equal("not served", x.join(0, 1, -1), -1);
         Due.equal("first", x.join(0, 0, 1), 1);
@@ -494,8 +436,8 @@ public final class PromiseTests {
         Due.equal("out, also the wrong card", x.join(1, 1, 0), 1);
         Due.equal("none inside is free", x.join(1, 1, -1), -4);
         Due.equal("refused ones", x.state(13), 5);
-        lines("0 in", x, 0, 0, 1, -1, -1, -1, -1, -1, -1, -1, -1, -1);
-        lines("1 out", x, 1, 1, 0);
+        Rows.lines("0 in", x, 0, 0, 1, -1, -1, -1, -1, -1, -1, -1, -1, -1);
+        Rows.lines("1 out", x, 1, 1, 0);
         Due.refused(x, "no gate", INDEX, () -> x.join(2, 5, 9));
         Due.refused(x, "no gate", INDEX, () -> x.join(-1, 0, 0));
         Due.refused(x, "no card", INDEX, () -> x.join(0, 2, 2));
@@ -508,10 +450,10 @@ public final class PromiseTests {
         Due.equal("and one less is inside", y.state(5), 0);
     }
 
-    private static void leave() {
+    private static void promise22_leave() {
         GateRow x = Due.row("row 9 2;gate both;card a 9;card b 9;wait 0 in;wait 0 in a;wait 0 in b;wait 0 in;");
         x.tick(1);
-        lines("a in front", x, 0, 0, 0, -1, 1, -1);
+        Rows.lines("a in front", x, 0, 0, 0, -1, 1, -1);
         Due.refused(x, "a is due", STATE, () -> x.leave(0, 0, 0));
         Due.refused(x, "no gate", INDEX, () -> x.leave(1, 2, 0));
         Due.refused(x, "no gate", INDEX, () -> x.leave(-1, 0, 0));
@@ -521,8 +463,8 @@ public final class PromiseTests {
         Due.refused(x, "no place", ELEMENT, () -> x.leave(0, 0, -1));
         Due.refused(x, "no place", ELEMENT, () -> x.leave(0, 1, 0));
         Due.equal("b leaves", x.leave(0, 0, 2), 3);
-        lines("the others", x, 0, 0, 0, -1, -1);
-        cards("b stays outside", x, 1, 9, 0, 0, -1, -1, -1, 0);
+        Rows.lines("the others", x, 0, 0, 0, -1, -1);
+        Rows.cards("b stays outside", x, 1, 9, 0, 0, -1, -1, -1, 0);
         x.tick(1);
         Due.equal("nobody is due now", x.leave(0, 0, 0), 1);
         x.join(0, 1, 0);
@@ -534,19 +476,19 @@ public final class PromiseTests {
         Due.refused(y, "but on 1", STATE, () -> y.leave(0, 1, 0));
     }
 
-    private static void list() {
+    private static void promise23_list() {
         GateRow x = Due.row("row 1 1;card a 1;card b 1;card c 1;list c;");
         Due.equal("a", x.list(0, true), 2);
         Due.equal("a again", x.list(0, true), 2);
         Due.equal("b off", x.list(1, false), 2);
         Due.equal("c off", x.list(2, false), 1);
-        cards("a", x, 0, 1, 0, 1);
-        cards("c", x, 2, 1, 0, 0);
+        Rows.cards("a", x, 0, 1, 0, 1);
+        Rows.cards("c", x, 2, 1, 0, 0);
         Due.refused(x, "list(3)", INDEX, () -> x.list(3, true));
         Due.refused(x, "list(-1)", INDEX, () -> x.list(-1, false));
     }
 
-    private static void charge() {
+    private static void promise24_charge() {
         GateRow x = Due.row("row 1 1;card a 0;card b 50;");
         Due.equal("a", x.charge(0, 99), 99);
         Due.refused(x, "a is full", STATE, () -> x.charge(0, 1));
@@ -561,7 +503,7 @@ public final class PromiseTests {
         Due.refused(x, "-1", ARGUMENT, () -> x.charge(0, -1));
     }
 
-    private static void mode() {
+    private static void promise25_mode() {
         GateRow x = Due.row("row 1 1;gate in;card a 9;wait 0 in a;");
         Due.refused(x, "a would not be served", STATE, () -> x.mode(0, 1));
         Due.equal("to both", x.mode(0, 2), 0);
@@ -580,32 +522,32 @@ public final class PromiseTests {
         Due.equal("its last side stays", x.gate(0, 8), 0);
     }
 
-    private static void key() {
+    private static void promise26_key() {
         GateRow x = new GateRow();
         Due.equal("0", x.key(0), 1);
-        states("one", x, 0, 0, 3, 2, 0, 0, 0, 0, 1);
+        Rows.states("one", x, 0, 0, 3, 2, 0, 0, 0, 0, 1);
         Due.equal("2", x.key(2), 2);
-        states("two", x, 0, 0, 3, 2, 0, 0, 0, 1, 2);
+        Rows.states("two", x, 0, 0, 3, 2, 0, 0, 0, 1, 2);
         Due.equal("1", x.key(1), 3);
-        states("three", x, 0, 0, 3, 2, 0, 0, 0, 1, 3);
+        Rows.states("three", x, 0, 0, 3, 2, 0, 0, 0, 1, 3);
         Due.equal("0 back", x.key(0), 2);
-        states("two", x, 0, 0, 3, 2, 0, 0, 0, 1, 2);
+        Rows.states("two", x, 0, 0, 3, 2, 0, 0, 0, 1, 2);
         Due.equal("2 back", x.key(2), 1);
-        states("one", x, 0, 0, 3, 2, 0, 0, 0, 0, 1);
+        Rows.states("one", x, 0, 0, 3, 2, 0, 0, 0, 0, 1);
         Due.refused(x, "key(3)", ARGUMENT, () -> x.key(3));
         Due.refused(x, "key(-1)", ARGUMENT, () -> x.key(-1));
         Due.refused(x, "key(32)", ARGUMENT, () -> x.key(32));
     }
 
-    private static void keyInPanic() {
+    private static void promise26_keyInPanic() {
         GateRow x = Due.row("row 9 3;gate both;gate both;card a 9;card b 9;wait 0 in a;wait 0 in;tick 2;wait 1 in b;tick 1;");
-        gates("open", x, 0, 2, 7, 0, 0, 0, 0, 1, 1, 0);
-        gates("due", x, 1, 2, 9, 0, 1, 1, 0, 0, 1, 0);
+        Rows.gates("open", x, 0, 2, 7, 0, 0, 0, 0, 1, 1, 0);
+        Rows.gates("due", x, 1, 2, 9, 0, 1, 1, 0, 0, 1, 0);
         x.key(1);
-        gates("one key does nothing", x, 1, 2, 9, 0, 1, 1, 0, 0, 1, 0);
+        Rows.gates("one key does nothing", x, 1, 2, 9, 0, 1, 1, 0, 0, 1, 0);
         x.key(2);
-        gates("closed", x, 0, 2, 0, -1, 0, 0, 0, 1, 1, 0);
-        gates("nobody due", x, 1, 2, 0, -1, 0, 1, 0, 0, 1, 0);
+        Rows.gates("closed", x, 0, 2, 0, -1, 0, 0, 0, 1, 1, 0);
+        Rows.gates("nobody due", x, 1, 2, 0, -1, 0, 1, 0, 0, 1, 0);
         Due.equal("who was due may leave", x.leave(1, 0, 0), 0);
         x.join(1, 0, 1);
         Due.equal("nobody goes in", x.tick(5), 0);
@@ -614,7 +556,7 @@ public final class PromiseTests {
         Due.equal("b is in", x.card(1, 1), 1);
     }
 
-    private static void tick() {
+    private static void promise27_tick() {
         GateRow x = Due.row("row 2 2;gate both;card a 9;card b 9;wait 0 in a;wait 0 in;wait 0 in b;");
         Due.equal("opens", x.tick(1), 0);
         Due.equal("a and a follower", x.tick(2), 2);
@@ -629,57 +571,56 @@ public final class PromiseTests {
         x.key(0);
         x.key(1);
         Due.equal("as many as flow tells", x.tick(1), 2);
-        lines("b is left", x, 0, 1, 1);
+        Rows.lines("b is left", x, 0, 1, 1);
         Due.equal("in a panic there are no followers", x.state(11), 1);
         Due.equal("nor alarms", x.gate(0, 6), 1);
         x.list(1, true);
         Due.equal("nothing else is asked", x.tick(1), 1);
-        cards("b", x, 1, 8, 0, 1, -1, -1, -1, 2);
-        followersOfBothSides();
+        Rows.cards("b", x, 1, 8, 0, 1, -1, -1, -1, 2);
     }
 
-    private static void followersOfBothSides() {
+    private static void promise27_followersOfBothSides() {
         GateRow x = Due.row("row 3 2;gate both;card a 9;card b 9;wait 0 in a;wait 0 in;wait 0 in;tick 9;");
         Due.equal("two followed a in", x.state(11), 2);
         x.join(0, 1, -1);
         x.join(0, 1, 0);
         x.join(0, 1, -1);
         Due.equal("a comes to the front and is followed twice", x.tick(4), 3);
-        states("out", x, 1, 2, 3, 2, 13, 0, 0, 0, 0, 3, 3, 4, 0, 0, 0, 0);
+        Rows.states("out", x, 1, 2, 3, 2, 13, 0, 0, 0, 0, 3, 3, 4, 0, 0, 0, 0);
         Due.equal("alarms", x.gate(0, 6), 4);
-        cards("out costs no trip", x, 0, 8, 0, 0, -1, -1, -1, 2);
+        Rows.cards("out costs no trip", x, 0, 8, 0, 0, -1, -1, -1, 2);
         x.join(0, 0, 0);
         x.join(0, 0, 1);
         x.join(0, 0, -1);
         Due.equal("a alone", x.tick(4), 1);
-        lines("who has a card does not follow", x, 0, 0, 1, -1);
+        Rows.lines("who has a card does not follow", x, 0, 0, 1, -1);
         GateRow y = Due.row("row 1 1;gate in;wait 0 in;tick 50;");
         Due.equal("without a card nobody opens", y.gate(0, 7), 0);
         Due.equal("nor goes away", y.gate(0, 4), 1);
     }
 
-    private static void tickSendsAway() {
+    private static void promise27_tickSendsAway() {
         GateRow x = Due.row("row 1 1;gate in;card a 0;card b 5;card c 5;list b;wait 0 in;wait 0 in b;wait 0 in a;wait 0 in c;");
         x.tick(1);
-        lines("b went away", x, 0, 0, -1, 0, 2);
+        Rows.lines("b went away", x, 0, 0, -1, 0, 2);
         x.tick(1);
-        lines("a went away", x, 0, 0, -1, 2);
+        Rows.lines("a went away", x, 0, 0, -1, 2);
         Due.equal("two", x.state(12), 2);
-        cards("a", x, 0, 0, 0, 0, -1, -1, -1, 0);
+        Rows.cards("a", x, 0, 0, 0, 0, -1, -1, -1, 0);
         x.tick(1);
-        lines("c comes to the front", x, 0, 0, 2, -1);
+        Rows.lines("c comes to the front", x, 0, 0, 2, -1);
         x.list(2, true);
         Due.equal("who is due goes, listed or not", x.tick(1), 1);
-        cards("c", x, 2, 4, 1, 1, -1, -1, -1, 1);
+        Rows.cards("c", x, 2, 4, 1, 1, -1, -1, -1, 1);
         x.mode(0, 2);
         x.leave(0, 0, 0);
         x.join(0, 1, 2);
         x.tick(1);
-        states("c went away inside", x, 1, 3, 1, 1, 5, 0, 0, 0, 0, 1, 0, 0, 3, 0, 0, 0);
-        cards("its card stays as it is", x, 2, 4, 1, 1, -1, -1, -1, 1);
+        Rows.states("c went away inside", x, 1, 3, 1, 1, 5, 0, 0, 0, 0, 1, 0, 0, 3, 0, 0, 0);
+        Rows.cards("its card stays as it is", x, 2, 4, 1, 1, -1, -1, -1, 1);
     }
 
-    private static void tickChoosesSide() {
+    private static void promise27_tickChoosesSide() {
         GateRow x = Due.row("row 1 1;gate both;card a 9;card b 9;wait 0 in a;tick 2;wait 0 in b;");
         x.join(0, 1, 0);
         x.tick(1);
@@ -694,7 +635,7 @@ public final class PromiseTests {
         Due.equal("the longer line has no card: nothing is done", y.gate(0, 7), 1);
     }
 
-    private static void undo() {
+    private static void promise28_undo() {
         GateRow x = new GateRow();
         long[] sums = new long[12];
         for (int n = 0; n < 12; n++) {
@@ -719,7 +660,7 @@ public final class PromiseTests {
         Due.equal("as it was", x.checksum(), sums[4]);
     }
 
-    private static void undoOfEveryChange() {
+    private static void promise28_undoOfEveryChange() {
         GateRow x = new GateRow();
         long empty = x.checksum();
         Due.load(x, "row 2 2;gate both;card a 9;card b 9;wait 0 in a;wait 0 in;wait 0 in b;tick 3;");
@@ -744,7 +685,7 @@ public final class PromiseTests {
         Due.equal("the buffer is not affected", y.load(8), 0);
     }
 
-    private static void checksum() {
+    private static void promise29_checksum() {
         long sum = 0;
         for (int n : new int[] {0, 0, 3, 2, 0, 0, 0, 0, 0, 0, 0, 0, 0, 0, 0, 0}) {
             sum = 31 * sum + n;
