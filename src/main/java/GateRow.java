@@ -1172,23 +1172,15 @@ public final class GateRow {
 
         boolean readList(Input input, Row row) {
             input.advance();
-            if (!takeListed(input, row)) {
-                return false;
-            }
-            for (int n = 0; n < BUFFER_BYTES && input.kind == Input.WORD; n++) {
-                if (!takeListed(input, row)) {
+            int names = 0;
+            do {
+                int card = takeKnownCard(input, row);
+                if (!row.hasCard(card)) {
                     return false;
                 }
-            }
-            return true;
-        }
-
-        boolean takeListed(Input input, Row row) {
-            int card = takeKnownCard(input, row);
-            if (!row.hasCard(card)) {
-                return false;
-            }
-            row.cards[card].isListed = true;
+                row.cards[card].isListed = true;
+                names++;
+            } while (names < BUFFER_BYTES && input.kind == Input.WORD);
             return true;
         }
 
